@@ -660,10 +660,10 @@ public final class NineLives {
 
         /** The LAW of a number; null for NONE. */
         Text lawOf(int number) {
-            return hasLaw(number) ? law[number] : null;
+            return number >= 0 && number < laws ? law[number] : null;
         }
 
-        /** Asked only while there is room, as the three that follow. */
+        /** Asked only while there is room, as the two that follow. */
         int addCat(int atLife, int livesYet, int itsEar) {
             int number = cats;
             cats++;
@@ -1022,18 +1022,15 @@ public final class NineLives {
             text.empty();
             now = 0;
             parts = 0;
-            for (int clause = 0; clause < CLAUSES; clause++) {
-                if (!hasClause()) {
-                    return places[now];
-                }
-                if (kindNow() == END) {
+            boolean goesOn = true;
+            for (int clause = 0; clause < CLAUSES && goesOn; clause++) {
+                boolean isClause = hasClause();
+                if (isClause && kindNow() == END) {
                     return NONE;
                 }
-                if (!takes(';')) {
-                    return places[now];
-                }
+                goesOn = isClause && takes(';');
             }
-            return places[now];
+            return now < tokens ? places[now] : NONE;
         }
 
         private void split(Tape tape) {
