@@ -252,5 +252,16 @@ public final class DoingsTest {
         due("orders that can't be", Due.orders(x, "pass times 20;clip 0 as 2"), -3);
         due("what was ahead can be undone", x.undo(), 2);
         due("ear", x.of(0, 2), 1);
+        NineLives many = new NineLives();
+        many.cat(0);
+        for (int i = 1; i <= 20; i++) {
+            many.clip(0, i % 9);
+        }
+        due("orders that can't be", Due.orders(many, "pass times 20;clip 0 as 9"), -3);
+        for (int i = 19; i >= 4; i--) {
+            due("undo", many.undo(), 2);
+            due("ear", many.of(0, 2), i % 9);
+        }
+        due("undo", many.undo(), -3);
     }
 }

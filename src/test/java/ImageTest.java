@@ -199,6 +199,14 @@ public final class ImageTest {
         x.image(1);
         x.back(1);
         due("kept anew", x.of(0, 0), 8);
+        NineLives ships = new NineLives();
+        ships.image(0);
+        ships.ship(5);
+        ships.image(1);
+        ships.back(0);
+        ships.ship(6);
+        ships.back(1);
+        due("needs", ships.at(0, 0), 5);
     }
 
     private static void lawsOfImages() {

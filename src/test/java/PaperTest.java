@@ -97,6 +97,9 @@ public final class PaperTest {
         like.cat(0);
         like.cat(3);
         due("the lowest", like.next(0, 1), 3);
+        NineLives zero = Due.under("earns 5");
+        zero.cat(4);
+        due("life 0", zero.next(0, 3), 0);
         due("not the one it is at", like.next(1, 1), 6);
         NineLives later = withRow("earns 50 if life = 1;dares 10 if life = 1;earns 30 if life = 2;earns 0 if spent = 8;dares 0 if life = 2",
                 0, 2, 9);
@@ -239,6 +242,8 @@ public final class PaperTest {
         due("alike", seeing(x, 3, 3, 3, 3).explained(0), 1);
         due("three", seeing(x, 3, 3, 5, 1).explained(0), 3);
         due("not the one it is at", x.explained(1), -1);
+        due("two", seeing(x, 3, 5).explained(0), 2);
+        due("nothing of the latest stays", seeing(x, 5).explained(0), -1);
         due("each once", seeing(x, 3, 5, 3).explained(0), -1);
         due("each once", seeing(x, 3, 5, 5, 1, 5).explained(0), -1);
         due("no such life", seeing(x, 3, 9).explained(0), -1);
@@ -301,6 +306,11 @@ public final class PaperTest {
         x.cat(1);
         x.cat(8);
         completing(x, 3, 0b00111);
+        due("what 2", x.complete(0, 2), -1);
+        due("what -1", x.complete(0, -1), -1);
+        x.sign(0, 1);
+        completing(x, 3, 0b01110);
+        x.undo();
         x.sign(3, 0);
         completing(x, 2, 0b00110);
         x.clip(1, 0);

@@ -182,6 +182,10 @@ public final class TextTest {
         lawFaultsAt("earns latestlatest", 6);
         lawFaultsAt("earns spents", 6);
         lawFaultsAt("earns spen", 6);
+        lawFaultsAt("earnsz 1", 0);
+        lawFaultsAt("earns 1 *", 9);
+        lawFaultsAt("earns 1 /;bars", 9);
+        lawFaultsAt("earns 1 % if 1 = 1", 10);
     }
 
     private static String repeated(String text, int times) {
@@ -212,6 +216,9 @@ public final class TextTest {
         lawFaultsAt("bars if " + repeated("(", 4) + repeated("[", 5) + "1" + repeated("]", 5) + "=1" + repeated(")", 4), 16);
         lawFaultsAt("bars if " + repeated("not(", 8) + "1=1" + repeated(")", 8), -1);
         lawFaultsAt("bars if " + repeated("not(", 9) + "1=1" + repeated(")", 9), 8 + 35);
+        ordersFaultAt("clip " + repeated("[", 8) + "0" + repeated("]", 8) + " as " + repeated("[", 8) + "1" + repeated("]", 8), -1);
+        ordersFaultAt("clip " + repeated("[", 9) + "0" + repeated("]", 9) + " as 1", 13);
+        ordersFaultAt("clip 0 as " + repeated("[", 9) + "1" + repeated("]", 9), 18);
         lawFaultsAt("bars if " + repeated("not ", 97) + "1=1 ", -1);
         lawFaultsAt(repeated(" ", 393) + "earns 7", -1);
         lawFaultsAt(repeated("(", 400), 0);
@@ -313,6 +320,10 @@ public final class TextTest {
         due("no or yes and no or broken", so("not (" + no + " or " + yes + " and " + no + " or " + broken + ")"), 0);
         due("the last that holds", told("9;earns 8 if 1=1;earns 7 if 1=2;earns 6/0"), 8);
         due("the last that holds", told("9;earns 8 if 1/0=1;dares 3"), 9);
+        due("the twelfth", told("9;" + repeated("bars;", 10) + "earns 8 if life = 5"), 8);
+        due("the twelfth", told("9;" + repeated("bars;", 10) + "earns 8 if life = 4"), 9);
+        due("not (not yes)", so("not (not (" + yes + "))"), 1);
+        due("not (not no)", so("not (not (" + no + "))"), 0);
     }
 
     private static void orders() {
@@ -376,7 +387,11 @@ public final class TextTest {
     private static void faultsOfOrders() {
         DUE.about("promises 12, 13");
         ordersFaultAt("earns 1", 0);
+        ordersFaultAt("sign", 4);
+        ordersFaultAt("die", 3);
+        ordersFaultAt("clip  ", 6);
         ordersFaultAt("sign 1", 6);
+        ordersFaultAt("pass if dlatest = 0", 8);
         ordersFaultAt("sign 1 as 2", 7);
         ordersFaultAt("sign on 2", 5);
         ordersFaultAt("die 1 on 2", 6);
@@ -423,6 +438,13 @@ public final class TextTest {
                 + "clip 0 as 2 if latest = 0 and alive = 1 and done = 3 and crew 1 = 1;die 0 as 8;clip 0 as 3 if latest = 7"), 6);
         due("ear", x.of(0, 2), 3);
         due("latest is of this text", Due.orders(x, "clip 0 as 5 if latest = 0 - 1 and done = 0"), 1);
+        x.cat(0);
+        x.cat(1);
+        x.cat(2);
+        x.sign(4, 0);
+        x.pass();
+        due("each of them", Due.orders(x, "pass if life 3=0 and life 4=1 and life 5=2 and gold 3=1 and gold 4=2 and gold 5=3"
+                + " and crew 0=1 and crew 1=1 and crew 2=0-1"), 1);
         due("sums from the left", Due.orders(x, "clip life 0 - 8 as done + 6;clip 0 as done + 6"), 2);
         due("ear", x.of(0, 2), 7);
     }
