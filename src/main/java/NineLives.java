@@ -1700,7 +1700,7 @@ public final class NineLives {
             askOfLives(port, cat);
             Arrays.fill(hadWith, 0L);
             for (int year = 0; year < years; year++) {
-                addYear(yet, life);
+                addYear(yet, life, years - year);
             }
         }
 
@@ -1721,10 +1721,13 @@ public final class NineLives {
             }
         }
 
-        /** From the most LIVES YET down: what a death leads to has fewer, and must still be as a YEAR ahead. */
-        private void addYear(int yetNow, int lifeNow) {
+        /**
+         * From the most LIVES YET down: what a death leads to has fewer, and must still be as a YEAR ahead.
+         * What takes more deaths than there are YEARS left is never asked.
+         */
+        private void addYear(int yetNow, int lifeNow, int deaths) {
             for (int yet = yetNow; yet >= 0; yet--) {
-                if ((yet & ~yetNow) == 0) {
+                if ((yet & ~yetNow) == 0 && Integer.bitCount(yetNow & ~yet) <= deaths) {
                     long byNext = mostByNext(yet);
                     int lives = yet == yetNow ? 1 << lifeNow : yetNow & ~yet;
                     addYearAt(yet, lives, byNext);
