@@ -364,42 +364,50 @@ public final class PortTest {
         due("refused by -1", x.count(7), 0);
     }
 
-    /** No call throws, whatever the numbers are. */
+    /** No call throws, whatever the numbers are; each object is used for far fewer than 512 calls. */
     private static void anyNumbers() {
         DUE.about("any numbers");
         int[] some = {Integer.MIN_VALUE, -1000000, -7, 31, 32, 33, 64, 1000, 1000000, Integer.MAX_VALUE};
-        NineLives x = new NineLives();
-        x.cat(0);
-        x.ship(1);
         for (int a : some) {
-            due("cat", x.cat(a), -1);
-            due("ship", x.ship(a < 512 && a > 0 ? 512 : a), -1);
-            due("force", x.force(a), -2);
-            due("end", x.end(a), -1);
-            due("seen", x.seen(a), -1);
-            due("canBe", x.canBe(a), -1);
-            due("explained", x.explained(a), -1);
-            due("safe", x.safe(a), -1);
-            due("passing", x.passing(a), -1);
-            due("rich", x.rich(a), -1);
-            due("image", x.image(a), -1);
-            due("back", x.back(a), -1);
-            due("count", x.count(a), -1);
+            NineLives x = new NineLives();
+            x.cat(0);
+            x.ship(1);
+            anyNumber(x, a);
             for (int b : some) {
-                due("of", x.of(a, b) + x.of(0, b), -2);
-                due("at", x.at(a, b) + x.at(0, b), -2);
-                due("terms", x.terms(a, b), -1);
-                due("sign", x.sign(a, b), -2);
-                due("die", x.die(a, b), -1);
-                due("clip", x.clip(a, b), -1);
-                due("had", x.had(a, b) + x.had(0, b), -2);
-                due("next", x.next(a, b) + x.next(0, b), -2);
-                due("likely", x.likely(a, b), -1);
-                due("look", x.look(a, b) + x.look(0, b), -2);
-                due("complete", x.complete(a, b) + x.complete(0, b), -2);
-                due("years", x.years(a < 0 || a > 1000000 ? a : -1, b), -1);
-                due("drawn", x.drawn(a, b), -1);
+                anyTwo(x, a, b);
             }
         }
+    }
+
+    private static void anyNumber(NineLives x, int a) {
+        due("cat", x.cat(a), -1);
+        due("ship", x.ship(a < 512 && a > 0 ? 512 : a), -1);
+        due("force", x.force(a), -2);
+        due("end", x.end(a), -1);
+        due("seen", x.seen(a), -1);
+        due("canBe", x.canBe(a), -1);
+        due("explained", x.explained(a), -1);
+        due("safe", x.safe(a), -1);
+        due("passing", x.passing(a), -1);
+        due("rich", x.rich(a), -1);
+        due("image", x.image(a), -1);
+        due("back", x.back(a), -1);
+        due("count", x.count(a), -1);
+    }
+
+    private static void anyTwo(NineLives x, int a, int b) {
+        due("of", x.of(a, b) + x.of(0, b), -2);
+        due("at", x.at(a, b) + x.at(0, b), -2);
+        due("terms", x.terms(a, b), -1);
+        due("sign", x.sign(a, b), -2);
+        due("die", x.die(a, b), -1);
+        due("clip", x.clip(a, b), -1);
+        due("had", x.had(a, b) + x.had(0, b), -2);
+        due("next", x.next(a, b) + x.next(0, b), -2);
+        due("likely", x.likely(a, b), -1);
+        due("look", x.look(a, b) + x.look(0, b), -2);
+        due("complete", x.complete(a, b) + x.complete(0, b), -2);
+        due("years", x.years(a < 0 || a > 1000000 ? a : -1, b), -1);
+        due("drawn", x.drawn(a, b), -1);
     }
 }

@@ -112,9 +112,11 @@ public final class RoomTest {
             DUE.due("fault", x.fault(), -1);
             x.back(0);
         }
-        for (int calls = 0; calls < 512; calls += 4) {
-            Due.law(x, "bars");
-            x.back(0);
+        NineLives y = new NineLives();
+        y.image(0);
+        for (int calls = 1; calls < 508; calls += 4) {
+            Due.law(y, "bars");
+            y.back(0);
         }
         DUE.isSo("laws make " + (made() - before) + " bytes", made() - before < BYTES_OF_A_RUN);
     }
