@@ -14,6 +14,7 @@ final class Edges {
     /** Each run is one of a new object. */
     void edge(String place, String words, String... runs) {
         due.about(type.getSimpleName() + ", " + place + ", \"" + words.replaceAll("\\s+", " ") + "\"");
+        due.isSo("a promise is named", place.toLowerCase().contains("promise"));
         due.isSo("the document says so", sentences.note(place, words));
         due.isSo("there are runs", runs.length > 0);
         for (String run : runs) {

@@ -14,7 +14,7 @@ final class EdgesOfLaws {
     }
 
     private static void laws(Edges edges) {
-        edges.edge(HERE, "LAWS, 6 at most; one is in FORCE (NONE at first: no CLAUSE):", """
+        edges.edge(HERE + ", promises 11, 15", "LAWS, 6 at most; one is in FORCE (NONE at first: no CLAUSE):", """
                 cat(4) = 0; ship(0) = 0
                 count(4) = 0
                 count(12) = -1
@@ -38,10 +38,11 @@ final class EdgesOfLaws {
     }
 
     private static void clauses(Edges edges) {
-        edges.edge(HERE, "CLAUSE: ((\"earns\" | \"dares\" | \"shows\") SUM | \"bars\") [\"if\" TEST].",
+        edges.edge(HERE + ", promises 11, 13", "CLAUSE: ((\"earns\" | \"dares\" | \"shows\") SUM | \"bars\") [\"if\" TEST].",
                 Edges.lawIsGood("earns 1"), Edges.lawIsGood("dares 1"), Edges.lawIsGood("shows 1"), Edges.lawIsGood("bars"),
                 Edges.lawIsGood("earns 1 if 1=1"), Edges.lawIsGood("dares 1 if 1=1"), Edges.lawIsGood("shows 1 if 1=1"),
-                Edges.lawIsGood("bars if 1=1"), Edges.lawFaults("earns", 5), Edges.lawFaults("dares", 5), Edges.lawFaults("shows", 5),
+                Edges.lawIsGood("bars if 1=1"), Edges.lawFaults("earns", 5), Edges.lawFaults("dares", 5),
+                Edges.lawFaults("shows", 5),
                 Edges.lawFaults("earns if 1=1", 6), Edges.lawFaults("dares if 1=1", 6), Edges.lawFaults("shows if 1=1", 6),
                 Edges.lawFaults("bars 1", 5), Edges.lawFaults("bars 1 if 1=1", 5), Edges.lawFaults("earns 1 if", 10),
                 Edges.lawFaults("earns 1 if 1=1 if 1=1", 15), Edges.lawFaults("earns 1 1=1", 8), Edges.lawFaults("earns 1 = 1", 8),
@@ -51,7 +52,8 @@ final class EdgesOfLaws {
     }
 
     private static void words(Edges edges) {
-        edges.edge(HERE, "Words: \"cat\" | \"life\" | \"spent\" | \"ear\" | \"gold\" | \"ship\" | \"year\" | \"mood\".",
+        edges.edge(HERE + ", promises 3, 11, 13",
+                "Words: \"cat\" | \"life\" | \"spent\" | \"ear\" | \"gold\" | \"ship\" | \"year\" | \"mood\".",
                 Edges.under("earns cat") + "6 x cat(3) = 5; of(0, 6) = 0; of(5, 6) = 5",
                 Edges.under("earns life") + "cat(0) = 0; cat(8) = 1; of(0, 6) = 0; of(1, 6) = 8",
                 Edges.under("earns spent") + "cat(4) = 0; row 4 0 9 = 1; of(0, 6) = 0; of(1, 6) = 8; die(0, 8) = 7; of(0, 6) = 1",
@@ -83,7 +85,7 @@ final class EdgesOfLaws {
     }
 
     private static void askedOf(Edges edges) {
-        edges.edge(HERE, """
+        edges.edge(HERE + ", promises 3, 5, 16", """
                 All are asked of a CAT AT a LIFE with so many SPENT ("bars": that would sign on a SHIP; ship: the CAT's own else, -1: none).
                 """,
                 Edges.under("bars if ship = 1;earns 50 + ship") + """
@@ -113,9 +115,11 @@ final class EdgesOfLaws {
     }
 
     private static void holds(Edges edges) {
-        edges.edge(HERE, "A CLAUSE HOLDS, if its \"if\" (if it has one) is so, and neither that nor its SUM is BROKEN.",
+        edges.edge(HERE + ", promises 3, 5, 11",
+                "A CLAUSE HOLDS, if its \"if\" (if it has one) is so, and neither that nor its SUM is BROKEN.",
                 Edges.earns("9", 9), Edges.earns("9 if life=5", 9), Edges.earns("9 if life=4", 6), Edges.earns("9 if 1/0=1", 6),
-                Edges.earns("9 if not 1/0=1", 6), Edges.earns("9/0", 6), Edges.earns("9/0 if life=5", 6), Edges.earns("9/0 if 1/0=1", 6),
+                Edges.earns("9 if not 1/0=1", 6), Edges.earns("9/0", 6), Edges.earns("9/0 if life=5", 6),
+                Edges.earns("9/0 if 1/0=1", 6),
                 Edges.earns("9;earns 8/0", 9), Edges.earns("9;earns 8 if 1/0=1", 9), Edges.earns("9;earns 8 if life=4", 9),
                 Edges.under("bars if 1/0=1") + "ship(0) = 0; cat(3) = 0; at(0, 3) = 0; sign(0, 0) = 1",
                 Edges.under("bars if not 1/0=1") + "ship(0) = 0; cat(3) = 0; at(0, 3) = 0; sign(0, 0) = 1",
@@ -125,10 +129,12 @@ final class EdgesOfLaws {
     }
 
     private static void earns(Edges edges) {
-        edges.edge(HERE, "A CAT EARNS 0 .. 99 a YEAR as the last \"earns\" that HOLDS tells (else the nearest), without its LIFE and 1;",
+        edges.edge(HERE + ", promises 3, 19",
+                "A CAT EARNS 0 .. 99 a YEAR as the last \"earns\" that HOLDS tells (else the nearest), without its LIFE and 1;",
                 Edges.earns("98", 98), Edges.earns("99", 99), Edges.earns("100", 99), Edges.earns("1000*1000*1000", 99),
                 Edges.earns("1", 1), Edges.earns("0", 0), Edges.earns("0-1", 0), Edges.earns("0-1000*1000*1000", 0),
-                Edges.earns("1;earns 2;earns 3", 3), Edges.earns("1;earns 2;earns 3 if life=4", 2), Edges.earns("1;earns 2/0;earns 3/0", 1),
+                Edges.earns("1;earns 2;earns 3", 3), Edges.earns("1;earns 2;earns 3 if life=4", 2),
+                Edges.earns("1;earns 2/0;earns 3/0", 1),
                 Edges.earns("50;earns 100", 99), Edges.earns("50;earns 0-1", 0), Edges.earns("7;dares 8;shows 9;bars", 7),
                 Edges.under("dares 8;shows 9;bars") + "cat(0) = 0; cat(8) = 1; of(0, 6) = 1; of(1, 6) = 9",
                 "cat(0) = 0; cat(8) = 1; of(0, 6) = 1; of(1, 6) = 9; pass() = 1; of(0, 3) = 1; of(1, 3) = 9",
@@ -141,7 +147,7 @@ final class EdgesOfLaws {
     }
 
     private static void daresAndShows(Edges edges) {
-        edges.edge(HERE, "it DARES 0 .. 10 (its danger of ten a YEAR), DRAYS without;",
+        edges.edge(HERE + ", promises 3, 23, 35", "it DARES 0 .. 10 (its danger of ten a YEAR), DRAYS without;",
                 tells("dares 9", 7, 9), tells("dares 10", 7, 10), tells("dares 11", 7, 10), tells("dares 1000*1000*1000", 7, 10),
                 tells("dares 1", 7, 1), tells("dares 0", 7, 0), tells("dares 0-1", 7, 0), tells("dares 0-1000*1000*1000", 7, 0),
                 tells("dares 3;dares 4;dares 5 if 1=2", 7, 4), tells("dares 3;earns 4;shows 5;bars", 7, 3),
@@ -150,7 +156,7 @@ final class EdgesOfLaws {
                 // of ten a YEAR: 11 is 10, so that it surely dies, and -1 is 0, so that it surely does not
                 Edges.under("dares 11") + "row 5 0 9 = 1; likely(0, 1) = 0; years(0, 1) = 1",
                 Edges.under("dares 0-1") + "row 5 0 9 = 1; likely(0, 60) = 1000000000000; years(0, 60) = 0");
-        edges.edge(HERE, "it SHOWS a doing 0 .. 9, its LIFE without;",
+        edges.edge(HERE + ", promises 3, 26", "it SHOWS a doing 0 .. 9, its LIFE without;",
                 tells("shows 8", 8, 8), tells("shows 9", 8, 9), tells("shows 10", 8, 9), tells("shows 1000*1000*1000", 8, 9),
                 tells("shows 1", 8, 1), tells("shows 0", 8, 0), tells("shows 0-1", 8, 0), tells("shows 0-1000*1000*1000", 8, 0),
                 tells("shows 3;shows 4;shows 6 if 1=2", 8, 4), tells("shows 3;earns 4;dares 6;bars", 8, 3),
@@ -161,7 +167,7 @@ final class EdgesOfLaws {
     }
 
     private static void barred(Edges edges) {
-        edges.edge(HERE, "it is BARRED from a SHIP, if \"bars\" HOLDS.",
+        edges.edge(HERE + ", promises 5, 16", "it is BARRED from a SHIP, if \"bars\" HOLDS.",
                 Edges.under("bars if ship = 2 and cat = 5;bars if ship = 0 and cat = 0;bars if 1=2") + """
                 ship(0) = 0; ship(0) = 1; ship(0) = 2
                 6 x cat(3) = 5

@@ -29,8 +29,10 @@ final class EdgesOfPromises1To20 {
     }
 
     private static void calls(Edges edges) {
-        edges.edge("What it is", "An object is used for at most 512 calls after it has been made; what later calls answer is free.",
-                "511 x pass() = 511; pass() = 512", "510 x cat(9) = -1; cat(8) = 0; of(0, 0) = 8", "511 x row() = -6; count(11) = 511");
+        edges.edge("What it is, promise 1",
+                "An object is used for at most 512 calls after it has been made; what later calls answer is free.",
+                "511 x pass() = 511; pass() = 512", "510 x cat(9) = -1; cat(8) = 0; of(0, 0) = 8",
+                "511 x row() = -6; count(11) = 511");
     }
 
     private static void newObject(Edges edges) {
@@ -51,8 +53,10 @@ final class EdgesOfPromises1To20 {
                 cat(8) = 2; cat(8) = 3; cat(8) = 4
                 cat(4) = 5; of(5, 0) = 4; of(5, 1) = 495; of(5, 2) = 9; of(5, 3) = 0; of(5, 4) = -1; of(5, 5) = 0
                 """, PORT + "cat(7) = 4; status() = 0; of(4, 1) = 383; of(3, 0) = 3");
-        edges.edge("Promise 2", "-1; -5.", PORT + "cat(-1) refused -1; cat(9) refused -1; cat(" + LEAST + ") refused -1; cat(" + MOST + ") refused -1",
-                PORT + "cat(0) = 4; cat(0) = 5; cat(0) refused -5; cat(8) refused -5; cat(9) refused -1; cat(-1) refused -1; count(0) = 6",
+        edges.edge("Promise 2", "-1; -5.",
+                PORT + "cat(-1) refused -1; cat(9) refused -1; cat(" + LEAST + ") refused -1; cat(" + MOST + ") refused -1",
+                PORT + "cat(0) = 4; cat(0) = 5; cat(0) refused -5; cat(8) refused -5; cat(9) refused -1; cat(-1) refused -1; "
+                        + "count(0) = 6",
                 PORT + "cat(1) = 4; cat(1) = 5; pass() = 3; cat(1) refused -5; undo() = 3");
     }
 
@@ -75,10 +79,13 @@ final class EdgesOfPromises1To20 {
     }
 
     private static void ship(Edges edges) {
-        edges.edge("Promise 4", "A SHIP that NEEDS LIVES, as bits: its number.", "ship(0) = 0; ship(511) = 1; ship(256) = 2; at(0, 0) = 0; at(1, 0) = 511; at(2, 0) = 256",
+        edges.edge("Promise 4", "A SHIP that NEEDS LIVES, as bits: its number.",
+                "ship(0) = 0; ship(511) = 1; ship(256) = 2; at(0, 0) = 0; at(1, 0) = 511; at(2, 0) = 256",
                 PORT + "ship(1) = 2; status() = 0; count(2) = 3; at(2, 2) = 1; count(5) = 6");
-        edges.edge("Promise 4", "-1; -5.", PORT + "ship(-1) refused -1; ship(512) refused -1; ship(" + LEAST + ") refused -1; ship(" + MOST + ") refused -1",
-                PORT + "ship(0) = 2; ship(0) refused -5; ship(511) refused -5; ship(512) refused -1; ship(-1) refused -1; count(2) = 3");
+        edges.edge("Promise 4", "-1; -5.",
+                PORT + "ship(-1) refused -1; ship(512) refused -1; ship(" + LEAST + ") refused -1; ship(" + MOST + ") refused -1",
+                PORT + "ship(0) = 2; ship(0) refused -5; ship(511) refused -5; ship(512) refused -1; ship(-1) refused -1; "
+                        + "count(2) = 3");
     }
 
     private static void at(Edges edges) {
@@ -95,7 +102,8 @@ final class EdgesOfPromises1To20 {
                 at(0, 1) = 63; at(0, 2) = 255
                 die(0, 0) = 7; at(0, 2) = 254
                 """, "ship(0) = 0; at(0, 2) = 0; cat(3) = 0; sign(0, 0) = 1; at(0, 2) = 0; at(0, 1) = 1",
-                Edges.under("bars") + "ship(0) = 0; at(0, 3) = 0; row 3 0 9 4 0 9 = 2; at(0, 3) = 3; die(0, 9) = 0; at(0, 3) = 2; die(1, 9) = 0; at(0, 3) = 0");
+                Edges.under("bars") + "ship(0) = 0; at(0, 3) = 0; row 3 0 9 4 0 9 = 2; at(0, 3) = 3; die(0, 9) = 0; at(0, 3) = 2; "
+                        + "die(1, 9) = 0; at(0, 3) = 0");
         edges.edge("Promise 5", "NONE.", PORT + "at(0, -1) none; at(0, 4) none; at(2, 0) none; at(-1, 0) none; at(3, 3) none",
                 PORT + "at(" + LEAST + ", 0) none; at(" + MOST + ", 1) none; at(0, " + LEAST + ") none; at(1, " + MOST + ") none");
     }
@@ -107,9 +115,11 @@ final class EdgesOfPromises1To20 {
                 terms(2, 9) = 0; terms(2, 0) = 9; terms(2, 5) = 0; count(15) = 5
                 terms(2, 5) = 5; status() = 0
                 """);
-        edges.edge("Promise 6", "-1.", PORT + "terms(0, -1) refused -1; terms(0, 1000) refused -1; terms(1, -1) refused -1; terms(1, 11) refused -1",
+        edges.edge("Promise 6", "-1.",
+                PORT + "terms(0, -1) refused -1; terms(0, 1000) refused -1; terms(1, -1) refused -1; terms(1, 11) refused -1",
                 PORT + "terms(2, -1) refused -1; terms(2, 10) refused -1; terms(-1, 0) refused -1; terms(3, 0) refused -1",
-                PORT + "terms(" + LEAST + ", 0) refused -1; terms(" + MOST + ", 0) refused -1; terms(0, " + LEAST + ") refused -1; terms(2, " + MOST + ") refused -1");
+                PORT + "terms(" + LEAST + ", 0) refused -1; terms(" + MOST + ", 0) refused -1; terms(0, " + LEAST + ") refused -1; "
+                        + "terms(2, " + MOST + ") refused -1");
     }
 
     private static void feed(Edges edges) {
@@ -159,7 +169,8 @@ final class EdgesOfPromises1To20 {
                 law() = 0
                 count(6) = 0
                 """, "tape 'bars'; end(0) = 0; count(6) = 0; row() refused -6", "20 x feed(0, 0, 0, 0, 0) = 400; end(400) = 400; end(399) = 399; count(6) = 399");
-        edges.edge("Promise 8", "NONE, if it has not so many, or n is below 0.", PORT + "end(13) none; end(-1) none; end(" + LEAST + ") none; end(" + MOST + ") none; count(6) = 12",
+        edges.edge("Promise 8", "NONE, if it has not so many, or n is below 0.",
+                PORT + "end(13) none; end(-1) none; end(" + LEAST + ") none; end(" + MOST + ") none; count(6) = 12",
                 "end(1) none; end(-1) none; end(0) = 0; status() = 0; count(7) = 0",
                 "20 x feed(0, 0, 0, 0, 0) = 400; end(401) none; end(3) = 3; end(4) none; count(6) = 3");
     }
@@ -319,7 +330,8 @@ final class EdgesOfPromises1To20 {
                 status() = 0; count(7) = 0; count(8) = 0
                 """, "6 x law 'bars' = 5; force(5) = -1; force(0) = 5; count(12) = 0");
         edges.edge("Promise 15", "-2.", "force(0) refused -2; force(-2) refused -2",
-                PORT + "force(2) refused -2; force(-2) refused -2; force(6) refused -2; force(" + LEAST + ") refused -2; force(" + MOST + ") refused -2; count(12) = 0",
+                PORT + "force(2) refused -2; force(-2) refused -2; force(6) refused -2; force(" + LEAST + ") refused -2; "
+                        + "force(" + MOST + ") refused -2; count(12) = 0",
                 "6 x law 'bars' = 5; force(6) refused -2; force(5) = -1");
     }
 
@@ -331,10 +343,14 @@ final class EdgesOfPromises1To20 {
                 sign(5, 2) = 1; at(0, 1) = 31; at(2, 1) = 32
                 status() = 0; count(5) = 7
                 """);
-        edges.edge("Promise 16", "-2; -3.", PORT + "sign(4, 0) refused -2; sign(-1, 0) refused -2; sign(0, 2) refused -2; sign(0, -1) refused -2",
+        edges.edge("Promise 16", "-2; -3.",
+                PORT + "sign(4, 0) refused -2; sign(-1, 0) refused -2; sign(0, 2) refused -2; sign(0, -1) refused -2",
                 PORT + "sign(2, 2) refused -2; sign(" + LEAST + ", 0) refused -2; sign(0, " + MOST + ") refused -2",
-                PORT + "sign(0, 0) refused -3; sign(2, 0) refused -3; sign(2, 1) refused -3; sign(1, 1) refused -3; sign(0, 1) = 1; sign(1, 0) = 1",
-                "sign(0, 0) refused -2; cat(0) = 0; sign(0, 0) refused -2; ship(0) = 0; sign(1, 0) refused -2; sign(0, 1) refused -2; sign(0, 0) = 1");
+                PORT
+                        + "sign(0, 0) refused -3; sign(2, 0) refused -3; sign(2, 1) refused -3; sign(1, 1) refused -3; "
+                        + "sign(0, 1) = 1; sign(1, 0) = 1",
+                "sign(0, 0) refused -2; cat(0) = 0; sign(0, 0) refused -2; ship(0) = 0; sign(1, 0) refused -2; "
+                        + "sign(0, 1) refused -2; sign(0, 0) = 1");
     }
 
     private static void die(Edges edges) {
@@ -348,25 +364,34 @@ final class EdgesOfPromises1To20 {
                 """);
         edges.edge("Promise 17", "-1; -2; -3 (GONE; a LIFE it has not YET; 9, though it has one).",
                 PORT + "die(0, -1) refused -1; die(0, 10) refused -1; die(9, 10) refused -1; die(2, 10) refused -1",
-                PORT + "die(0, " + LEAST + ") refused -1; die(0, " + MOST + ") refused -1; die(4, 0) refused -2; die(-1, 9) refused -2",
+                PORT + "die(0, " + LEAST + ") refused -1; die(0, " + MOST + ") refused -1; die(4, 0) refused -2; "
+                        + "die(-1, 9) refused -2",
                 PORT + "die(" + LEAST + ", 0) refused -2; die(" + MOST + ", 8) refused -2; die(6, 3) refused -2",
                 PORT + "die(2, 9) refused -3; die(2, 0) refused -3; die(2, 4) refused -3",
-                PORT + "die(0, 0) refused -3; die(0, 9) refused -3; die(1, 2) refused -3; die(1, 5) refused -3; die(3, 2) refused -3; die(3, 9) refused -3",
-                "row 4 0 9 = 1; die(0, 0) refused -3; die(0, 4) refused -3; die(0, 8) refused -3; die(0, 9) = 0; die(0, 9) refused -3");
+                PORT + "die(0, 0) refused -3; die(0, 9) refused -3; die(1, 2) refused -3; die(1, 5) refused -3; "
+                        + "die(3, 2) refused -3; die(3, 9) refused -3",
+                "row 4 0 9 = 1; die(0, 0) refused -3; die(0, 4) refused -3; die(0, 8) refused -3; die(0, 9) = 0; "
+                        + "die(0, 9) refused -3");
     }
 
     private static void clip(Edges edges) {
-        edges.edge("Promise 18", "To CLIP: the EAR it was.", "cat(3) = 0; clip(0, 0) = 9; clip(0, 8) = 0; clip(0, 4) = 8; of(0, 2) = 4; status() = 0; count(5) = 3",
+        edges.edge("Promise 18", "To CLIP: the EAR it was.",
+                "cat(3) = 0; clip(0, 0) = 9; clip(0, 8) = 0; clip(0, 4) = 8; of(0, 2) = 4; status() = 0; count(5) = 3",
                 PORT + "clip(2, 0) = 9; clip(3, 0) = 5; of(2, 2) = 0");
-        edges.edge("Promise 18", "-1 (0 .. 8); -2; -3 it is so already.", PORT + "clip(0, -1) refused -1; clip(0, 9) refused -1; clip(0, 10) refused -1; clip(9, 9) refused -1",
-                PORT + "clip(0, " + LEAST + ") refused -1; clip(0, " + MOST + ") refused -1; clip(4, 0) refused -2; clip(-1, 8) refused -2",
-                PORT + "clip(" + LEAST + ", 0) refused -2; clip(" + MOST + ", 8) refused -2; clip(1, 3) refused -3; clip(3, 5) refused -3",
+        edges.edge("Promise 18", "-1 (0 .. 8); -2; -3 it is so already.",
+                PORT + "clip(0, -1) refused -1; clip(0, 9) refused -1; clip(0, 10) refused -1; clip(9, 9) refused -1",
+                PORT + "clip(0, " + LEAST + ") refused -1; clip(0, " + MOST + ") refused -1; clip(4, 0) refused -2; "
+                        + "clip(-1, 8) refused -2",
+                PORT + "clip(" + LEAST + ", 0) refused -2; clip(" + MOST + ", 8) refused -2; clip(1, 3) refused -3; "
+                        + "clip(3, 5) refused -3",
                 "row 1 0 0 1 0 8 = 2; clip(0, 0) refused -3; clip(1, 8) refused -3; clip(0, 8) = 0; clip(0, 8) refused -3");
     }
 
     private static void pass(Edges edges) {
-        edges.edge("Promise 19", "A YEAR: its number.", "pass() = 1; pass() = 2; status() = 0; terms(0, 998) = 2; pass() = 999; count(13) = 999; count(5) = 1");
-        edges.edge("Promise 19", "-3.", PORT + "terms(0, 999) = 2; pass() refused -3; pass() refused -3; count(13) = 999; count(16) = 38",
+        edges.edge("Promise 19", "A YEAR: its number.",
+                "pass() = 1; pass() = 2; status() = 0; terms(0, 998) = 2; pass() = 999; count(13) = 999; count(5) = 1");
+        edges.edge("Promise 19", "-3.",
+                PORT + "terms(0, 999) = 2; pass() refused -3; pass() refused -3; count(13) = 999; count(16) = 38",
                 PORT + "terms(0, 998) = 2; pass() = 999; pass() refused -3; undo() = 3; count(13) = 998; pass() = 999");
     }
 
@@ -423,7 +448,8 @@ final class EdgesOfPromises1To20 {
 
     private static void whatEndsUndoing(Edges edges) {
         String some = "cat(0) = 0; ship(0) = 0; sign(0, 0) = 1; die(0, 8) = 7; clip(0, 3) = 9; pass() = 1; count(5) = 4\n";
-        edges.edge("Promise 20", "-3 there is none (nothing that was ahead of a cat(), terms(), row() that was not REFUSED can be undone).",
+        edges.edge("Promise 20",
+                "-3 there is none (nothing that was ahead of a cat(), terms(), row() that was not REFUSED can be undone).",
                 "undo() refused -3; cat(0) = 0; undo() refused -3; pass() = 1; undo() = 3; undo() refused -3",
                 some + "cat(5) = 1; count(5) = 0; undo() refused -3; pass() = 2; undo() = 3; undo() refused -3",
                 some + "terms(2, 0) = 0; count(5) = 0; undo() refused -3; of(0, 2) = 3",
@@ -431,11 +457,15 @@ final class EdgesOfPromises1To20 {
                 some + "row 1 1 1 = 1; count(5) = 0; undo() refused -3",
                 some + "row 9 = 0; count(5) = 0; undo() refused -3",
                 // one that was refused ends nothing
-                some + "cat(9) refused -1; cat(-1) refused -1; terms(0, 1000) refused -1; terms(3, 0) refused -1; row() refused -6; count(5) = 4; undo() = 3",
+                some
+                        + "cat(9) refused -1; cat(-1) refused -1; terms(0, 1000) refused -1; terms(3, 0) refused -1; "
+                        + "row() refused -6; count(5) = 4; undo() = 3",
                 some.replace("cat(0) = 0;", "6 x cat(0) = 5;") + "cat(0) refused -5; count(5) = 4; undo() = 3",
                 // nor do the others, refused or not
-                some + "ship(1) = 1; seen(3) = 1; forget() = 1; law 'bars' = 0; force(0) = -1; years(0, 1); image(0) = 0; tape 'bars'; end(0) = 0; count(5) = 4; undo() = 3; undo() = 2; undo() = 1; undo() = 0",
-                some + "image(0) = 0; back(0) = 0; count(5) = 0; undo() refused -3", some + "back(0) refused -2; back(2) refused -1; count(5) = 4; undo() = 3",
+                some + "ship(1) = 1; seen(3) = 1; forget() = 1; law 'bars' = 0; force(0) = -1; years(0, 1); image(0) = 0; "
+                        + "tape 'bars'; end(0) = 0; count(5) = 4; undo() = 3; undo() = 2; undo() = 1; undo() = 0",
+                some + "image(0) = 0; back(0) = 0; count(5) = 0; undo() refused -3",
+                some + "back(0) refused -2; back(2) refused -1; count(5) = 4; undo() = 3",
                 some + "sign(0, 0) refused -3; die(0, 8) refused -3; clip(0, 3) refused -3; count(5) = 4; undo() = 3");
     }
 }

@@ -16,7 +16,7 @@ final class EdgesOfTermsI {
     }
 
     private static void lives(Edges edges) {
-        edges.edge(HERE, "LIVES 0 .. 8.", """
+        edges.edge(HERE + ", promises 2, 4, 9, 17", "LIVES 0 .. 8.", """
                 cat(-1) refused -1
                 cat(0) = 0
                 of(0, 0) = 0
@@ -32,7 +32,7 @@ final class EdgesOfTermsI {
                 mice() = 1
                 of(2, 0) = 8
                 """, "cat(" + LEAST + ") refused -1; cat(" + MOST + ") refused -1; ship(511) = 0; ship(512) refused -1");
-        edges.edge("The constants", "The constants: `NONE = -1`: There is none; GONE.", """
+        edges.edge("The constants, promises 3, 15", "The constants: `NONE = -1`: There is none; GONE.", """
                 of(0, 0) none
                 force(-1) = -1
                 count(12) = -1
@@ -44,7 +44,7 @@ final class EdgesOfTermsI {
     }
 
     private static void cats(Edges edges) {
-        edges.edge(HERE, "CATS 0 .. 5 (6 at most): AT a LIFE, or GONE (NONE),", """
+        edges.edge(HERE + ", promises 2, 3, 9", "CATS 0 .. 5 (6 at most): AT a LIFE, or GONE (NONE),", """
                 count(0) = 0
                 of(0, 0) none
                 cat(3) = 0
@@ -79,7 +79,7 @@ final class EdgesOfTermsI {
             yet.append("cat(").append(life).append(") = ").append(life).append('\n');
             yet.append("of(").append(life).append(", 1) = ").append(511 - (1 << life)).append('\n');
         }
-        edges.edge(HERE, "LIVES it has YET (as bits; not the one it is AT),", yet.toString(), """
+        edges.edge(HERE + ", promises 2, 3, 17", "LIVES it has YET (as bits; not the one it is AT),", yet.toString(), """
                 cat(8) = 0; of(0, 1) = 255
                 die(0, 0) = 7; of(0, 1) = 254
                 die(0, 7) = 6; of(0, 1) = 126
@@ -93,7 +93,7 @@ final class EdgesOfTermsI {
                 die(4, 9) = 0
                 of(4, 1) = 0
                 """);
-        edges.edge(HERE, "an EAR 0 .. 9 (9: not clipped, at first),", """
+        edges.edge(HERE + ", promises 3, 9, 18", "an EAR 0 .. 9 (9: not clipped, at first),", """
                 cat(5) = 0
                 of(0, 2) = 9
                 clip(0, -1) refused -1
@@ -109,7 +109,8 @@ final class EdgesOfTermsI {
                 of(0, 2) = 0
                 of(1, 2) = 9
                 """);
-        edges.edge(HERE, "GOLD 0 .. 9999 (0 at first),", "cat(5) = 0; of(0, 3) = 0; row 3 3 3 = 1; of(1, 3) = 0",
+        edges.edge(HERE + ", promises 3, 19", "GOLD 0 .. 9999 (0 at first),",
+                "cat(5) = 0; of(0, 3) = 0; row 3 3 3 = 1; of(1, 3) = 0",
                 Edges.under("earns 99;earns 98 if year = 100;earns 1 if year = 101") + """
                 cat(5) = 0
                 100 x pass() = 100
@@ -123,7 +124,7 @@ final class EdgesOfTermsI {
                 pass() = 104
                 of(0, 3) = 9999
                 """, Edges.under("earns 0 - 5") + "cat(5) = 0; pass() = 1; of(0, 3) = 0");
-        edges.edge(HERE, "a SHIP or none (NONE at first).", """
+        edges.edge(HERE + ", promises 3, 16", "a SHIP or none (NONE at first).", """
                 ship(0) = 0; ship(0) = 1; ship(0) = 2
                 cat(5) = 0
                 row 5 0 0 = 1
@@ -138,7 +139,7 @@ final class EdgesOfTermsI {
     }
 
     private static void spent(Edges edges) {
-        edges.edge(HERE, "It has SPENT LIVES: nine less those it has YET, and the one it is AT.", """
+        edges.edge(HERE + ", promises 3, 17", "It has SPENT LIVES: nine less those it has YET, and the one it is AT.", """
                 cat(0) = 0
                 of(0, 5) = 0
                 die(0, 8) = 7
@@ -153,7 +154,7 @@ final class EdgesOfTermsI {
     }
 
     private static void ships(Edges edges) {
-        edges.edge(HERE, "SHIPS 0 .. 2 (3 at most): NEEDS, LIVES as bits.", """
+        edges.edge(HERE + ", promises 4, 5", "SHIPS 0 .. 2 (3 at most): NEEDS, LIVES as bits.", """
                 count(2) = 0
                 at(0, 0) none
                 ship(0) = 0
@@ -172,7 +173,7 @@ final class EdgesOfTermsI {
     }
 
     private static void seen(Edges edges) {
-        edges.edge(HERE, "SEEN, 8 at most, in that order: a doing 0 .. 9.", """
+        edges.edge(HERE + ", promise 24", "SEEN, 8 at most, in that order: a doing 0 .. 9.", """
                 seen(-1) refused -1
                 seen(10) refused -1
                 seen(0) = 1
@@ -195,7 +196,7 @@ final class EdgesOfTermsI {
     }
 
     private static void terms(Edges edges) {
-        edges.edge(HERE, "TERMS: 0 YEAR 0 .. 999 (0 at first), 1 DRAYS 0 .. 10 (1), 2 MOOD 0 .. 9 (0).", """
+        edges.edge(HERE + ", promises 6, 39", "TERMS: 0 YEAR 0 .. 999 (0 at first), 1 DRAYS 0 .. 10 (1), 2 MOOD 0 .. 9 (0).", """
                 count(13) = 0; count(14) = 1; count(15) = 0
                 terms(0, 999) = 0
                 terms(0, 1000) refused -1
@@ -217,7 +218,7 @@ final class EdgesOfTermsI {
     }
 
     private static void refusedInOrder(Edges edges) {
-        edges.edge(HERE, """
+        edges.edge(HERE + ", promise 40", """
                 REFUSED by: -1 a number that can't be; -2 there is no such CAT, SHIP, LAW, IMAGE; -3 it can't be by what stands;
                 -5 no room; -6 a TEXT, a ROW that can't be. The first of these in that order.
                 """, """

@@ -32,7 +32,7 @@ final class EdgesOfTermsII {
     }
 
     private static void tape(Edges edges) {
-        edges.edge(HERE, "II. TEXTS are on a TAPE of at most 400 bytes.", """
+        edges.edge(HERE + ", promises 7, 11, 12", "II. TEXTS are on a TAPE of at most 400 bytes.", """
                 count(6) = 0
                 19 x feed(1, 2, 3, 4, 5) = 380
                 feed(1, 2, 3, 4, 5) = 400
@@ -59,8 +59,10 @@ final class EdgesOfTermsII {
             runs.add(lawFaults("bars " + other, 5));
             runs.add(ordersFault(other + "pass", 0));
         }
-        edges.edge(HERE, "TOKENS: longest rows of letters a .. z, of digits, single other bytes, any blanks (32) between.", all(runs));
-        edges.edge(HERE, "TOKENS: longest rows of letters a .. z, of digits, single other bytes, any blanks (32) between.",
+        edges.edge(HERE + ", promises 11, 12, 13",
+                "TOKENS: longest rows of letters a .. z, of digits, single other bytes, any blanks (32) between.", all(runs));
+        edges.edge(HERE + ", promises 11, 12, 13",
+                "TOKENS: longest rows of letters a .. z, of digits, single other bytes, any blanks (32) between.",
                 lawFaults("earnsa 1", 0), lawFaults("earnsz 1", 0), lawFaults("aearns 1", 0), lawFaults("zearns 1", 0),
                 lawFaults("earn s 1", 0), lawFaults("earn", 0), lawFaults("Earns 1", 0), lawFaults("EARNS 1", 0),
                 lawFaults("bars iff 1=1", 5), lawFaults("bars i f 1=1", 5), lawFaults("bars if 1=1 orr 1=1", 12),
@@ -69,16 +71,23 @@ final class EdgesOfTermsII {
                 Edges.earns("12", 12), Edges.earns("0", 0), Edges.earns("9", 9), Edges.earns("10/5", 2), Edges.earns("5if5=5", 5),
                 Edges.earns("    7    ", 7),
                 Edges.ordersAreGood("clip0as1times2if life0=3and crew2=gold5"), ordersFault("pass times 2 0", 13),
-                ordersFault("passtimes 2", 0), ordersFault("pass if life5=0 and life 0 5=0", 27));
+                ordersFault("passtimes 2", 0),
+                // longer rows than any word, with a word at either end
+                ordersFault("pass if dlatest=0", 8), ordersFault("pass if latestd=0", 8), ordersFault("pass if latestlatest=0", 8),
+                ordersFault("pass if aaaalatest=0", 8), lawFaults("earns dddddlife", 6),
+                lawFaults("h" + "a".repeat(31) + "earns 1", 0), ordersFault("pass if life5=0 and life 0 5=0", 27));
     }
 
     private static void clauses(Edges edges) {
-        edges.edge(HERE, "Of both languages: CLAUSE {\";\" CLAUSE}, 12 at most (FAULT at the 13th's first TOKEN).",
+        edges.edge(HERE + ", promises 11, 12, 13",
+                "Of both languages: CLAUSE {\";\" CLAUSE}, 12 at most (FAULT at the 13th's first TOKEN).",
                 Edges.lawIsGood("bars"), Edges.lawIsGood("bars;bars"), Edges.lawIsGood("bars;".repeat(11) + "bars"),
                 lawFaults("bars;".repeat(12) + "bars", 60), lawFaults("bars;".repeat(12) + "  bars", 62),
-                lawFaults("bars;".repeat(12) + "what", 60), lawFaults("bars;".repeat(12), 60), lawFaults("bars;".repeat(12) + "  ", 62),
+                lawFaults("bars;".repeat(12) + "what", 60), lawFaults("bars;".repeat(12), 60),
+                lawFaults("bars;".repeat(12) + "  ", 62),
                 lawFaults("bars;".repeat(11) + "bars bars", 60), lawFaults("bars;".repeat(11) + "what", 55),
-                lawFaults(";", 0), lawFaults("bars;", 5), lawFaults(";bars", 0), lawFaults("bars;;bars", 5), lawFaults("bars bars", 5),
+                lawFaults(";", 0), lawFaults("bars;", 5), lawFaults(";bars", 0), lawFaults("bars;;bars", 5),
+                lawFaults("bars bars", 5),
                 Edges.ordersAreGood("pass;".repeat(11) + "pass"), ordersFault("pass;".repeat(12) + "pass", 60),
                 ordersFault("pass;".repeat(12), 60), ordersFault("pass;", 5), ordersFault(";", 0), ordersFault("pass,pass", 4),
                 "orders '" + "pass;".repeat(11) + "pass' = 12\n count(13) = 12",
@@ -87,60 +96,69 @@ final class EdgesOfTermsII {
     }
 
     private static void tests(Edges edges) {
-        edges.edge(HERE, "TEST: BOTH {\"or\" BOTH}. BOTH: PLAIN {\"and\" PLAIN}.",
+        edges.edge(HERE + ", promises 11, 12, 13", "TEST: BOTH {\"or\" BOTH}. BOTH: PLAIN {\"and\" PLAIN}.",
                 Edges.isSo("1=1 or 1=1 and 1=2"), Edges.isSo("1=2 and 1=2 or 1=1"), Edges.isNotSo("(1=1 or 1=1) and 1=2"),
                 Edges.isNotSo("1=2 and (1=2 or 1=1)"), Edges.isSo("1=2 or 1=2 or 1=1"), Edges.isNotSo("1=2 or 1=2 or 1=2"),
                 Edges.isSo("1=1 and 1=1 and 1=1"), Edges.isNotSo("1=1 and 1=1 and 1=2"), Edges.isSo("1=2 or 1=1 and 1=1"),
                 Edges.isSo("1=1 and 1=2 or 1=1 and 1=1"),
-                lawFaults("bars if", 7), lawFaults("bars if or 1=1", 8), lawFaults("bars if and 1=1", 8), lawFaults("bars if 1=1 or", 14),
+                lawFaults("bars if", 7), lawFaults("bars if or 1=1", 8), lawFaults("bars if and 1=1", 8),
+                lawFaults("bars if 1=1 or", 14),
                 lawFaults("bars if 1=1 and", 15), lawFaults("bars if 1=1 or or 1=1", 15), lawFaults("bars if 1=1 and and 1=1", 16),
                 lawFaults("bars if 1=1 or and 1=1", 15), lawFaults("bars if 1=1 1=1", 12), lawFaults("bars if 1=1 not 1=1", 12),
                 lawFaults("bars if 1=1 if 1=1", 12), ordersFault("pass if 1=1 or", 14), ordersFault("pass if 1=1 and ;pass", 16));
     }
 
     private static void plains(Edges edges) {
-        edges.edge(HERE, "PLAIN: \"not\" PLAIN | \"(\" TEST \")\" | SUM (\"<\" | \">\" | \"=\") SUM.",
+        edges.edge(HERE + ", promises 11, 12, 13", "PLAIN: \"not\" PLAIN | \"(\" TEST \")\" | SUM (\"<\" | \">\" | \"=\") SUM.",
                 Edges.isSo("life < 6"), Edges.isNotSo("life < 5"), Edges.isNotSo("life < 4"), Edges.isSo("life > 4"),
                 Edges.isNotSo("life > 5"), Edges.isNotSo("life > 6"), Edges.isSo("life = 5"), Edges.isNotSo("life = 4"),
                 Edges.isNotSo("life = 6"), Edges.isSo("0 - 1 < 0"), Edges.isSo("not 1 = 2"), Edges.isNotSo("not 1 = 1"),
                 Edges.isSo("not not 1 = 1"), Edges.isSo("not not not 1 = 2"), Edges.isSo("not (1 = 2)"), Edges.isSo("((1 = 1))"),
                 // "not" is of the PLAIN behind it alone
                 Edges.isSo("not 1 = 2 or 1 = 1"), Edges.isNotSo("not 1 = 1 and 1 = 2"), Edges.isNotSo("not (1 = 2 or 1 = 1)"),
-                lawFaults("bars if not", 11), lawFaults("bars if not or", 12), lawFaults("bars if ()", 9), lawFaults("bars if (", 9),
-                lawFaults("bars if (1=1", 12), lawFaults("bars if 1=1)", 11), lawFaults("bars if (1=1]", 12), lawFaults("bars if (1)=1", 10),
-                lawFaults("bars if (1=1)=1", 13), lawFaults("bars if 1", 9), lawFaults("bars if 1 and 1=1", 10), lawFaults("bars if 1=", 10),
-                lawFaults("bars if =1", 8), lawFaults("bars if 1=1=1", 11), lawFaults("bars if 1<1>1", 11), lawFaults("bars if 1 not 1", 10),
+                lawFaults("bars if not", 11), lawFaults("bars if not or", 12), lawFaults("bars if ()", 9),
+                lawFaults("bars if (", 9),
+                lawFaults("bars if (1=1", 12), lawFaults("bars if 1=1)", 11), lawFaults("bars if (1=1]", 12),
+                lawFaults("bars if (1)=1", 10),
+                lawFaults("bars if (1=1)=1", 13), lawFaults("bars if 1", 9), lawFaults("bars if 1 and 1=1", 10),
+                lawFaults("bars if 1=", 10),
+                lawFaults("bars if =1", 8), lawFaults("bars if 1=1=1", 11), lawFaults("bars if 1<1>1", 11),
+                lawFaults("bars if 1 not 1", 10),
                 lawFaults("bars if [1=1]", 10), lawFaults("bars if 1=(1)", 10), lawFaults("bars not 1=1", 5),
                 ordersFault("pass if (1=1", 12), ordersFault("pass if not", 11), ordersFault("pass if 1", 9));
     }
 
     private static void sums(Edges edges) {
-        edges.edge(HERE, "SUM: TERM {(\"+\" | \"-\") TERM}. TERM: PART {(\"*\" | \"/\" | \"%\") PART}.",
+        edges.edge(HERE + ", promises 11, 12, 13", "SUM: TERM {(\"+\" | \"-\") TERM}. TERM: PART {(\"*\" | \"/\" | \"%\") PART}.",
                 Edges.earns("2+3*4", 14), Edges.earns("2*3+4", 10), Edges.earns("[2+3]*4", 20), Edges.earns("20-3-4", 13),
                 Edges.earns("20-3+4", 21), Edges.earns("20-[3-4]", 21), Edges.earns("100/7/2", 7), Edges.earns("100/[7/2]", 33),
                 Edges.earns("7*9%10", 3), Edges.earns("100%30/3", 3), Edges.earns("100/30*3", 9), Edges.earns("20-2*3-1", 13),
-                lawFaults("earns", 5), lawFaults("earns +1", 6), lawFaults("earns -1", 6), lawFaults("earns 1+", 8), lawFaults("earns 1-", 8),
+                lawFaults("earns", 5), lawFaults("earns +1", 6), lawFaults("earns -1", 6), lawFaults("earns 1+", 8),
+                lawFaults("earns 1-", 8),
                 lawFaults("earns 1++1", 8), lawFaults("earns 1--1", 8), lawFaults("earns 1+-1", 8), lawFaults("earns *1", 6),
-                lawFaults("earns /1", 6), lawFaults("earns %1", 6), lawFaults("earns 1*", 8), lawFaults("earns 1/", 8), lawFaults("earns 1%", 8),
+                lawFaults("earns /1", 6), lawFaults("earns %1", 6), lawFaults("earns 1*", 8), lawFaults("earns 1/", 8),
+                lawFaults("earns 1%", 8),
                 lawFaults("earns 1**1", 8), lawFaults("earns 1*/1", 8), lawFaults("earns 1+*1", 8), lawFaults("earns 1^1", 7),
                 ordersFault("clip 0+ as 1", 8), ordersFault("clip 0 as *", 10));
     }
 
     private static void parts(Edges edges) {
-        edges.edge(HERE, "PART: NUMBER (to 1,000) | \"[\" SUM \"]\" | a word, as told.",
+        edges.edge(HERE + ", promises 11, 12, 13", "PART: NUMBER (to 1,000) | \"[\" SUM \"]\" | a word, as told.",
                 Edges.earns("0", 0), Edges.earns("999/10", 99), Edges.earns("1000/20", 50), lawFaults("earns 1001", 6),
                 lawFaults("earns 9999999999", 6), lawFaults("earns 4294967297", 6), lawFaults("earns 18446744073709551617", 6),
                 lawFaults("earns 1+1001", 8), lawFaults("bars if 1001=1", 8), ordersFault("clip 1001 as 1", 5),
                 ordersFault("pass if 1=1001", 10), Edges.ordersAreGood("pass if 1000=1"),
-                Edges.earns("[7]", 7), Edges.earns("[[7]]", 7), lawFaults("earns []", 7), lawFaults("earns [", 7), lawFaults("earns [1", 8),
+                Edges.earns("[7]", 7), Edges.earns("[[7]]", 7), lawFaults("earns []", 7), lawFaults("earns [", 7),
+                lawFaults("earns [1", 8),
                 lawFaults("earns 1]", 7), lawFaults("earns [1)", 8), lawFaults("earns (1)", 6), lawFaults("earns [1]]", 9),
                 Edges.earns("life", 5), lawFaults("earns lif", 6), lawFaults("earns lives", 6), lawFaults("earns if", 6),
-                lawFaults("earns earns", 6), lawFaults("earns or", 6), lawFaults("earns life life", 11), lawFaults("earns life 1", 11));
+                lawFaults("earns earns", 6), lawFaults("earns or", 6), lawFaults("earns life life", 11),
+                lawFaults("earns life 1", 11));
     }
 
     private static void limits(Edges edges) {
         String fifty = "1" + "+1".repeat(49);
-        edges.edge(HERE, "50 PARTS that are NUMBERS and words (FAULT at the 51st),",
+        edges.edge(HERE + ", promises 11, 12, 13", "50 PARTS that are NUMBERS and words (FAULT at the 51st),",
                 Edges.lawIsGood("earns " + fifty), Edges.earns(fifty, 50), lawFaults("earns " + fifty + "+1", 6 + 100),
                 lawFaults("earns " + fifty + "+life", 6 + 100), lawFaults("earns " + fifty + "+[1", 6 + 101),
                 lawFaults("earns " + fifty + "+[[[[1", 6 + 104), lawFaults("earns " + fifty + "+", 6 + 100),
@@ -154,10 +172,13 @@ final class EdgesOfTermsII {
                 lawFaults("bars if " + "1=1 or ".repeat(25) + "1=1", 8 + 175),
                 ordersFault("clip " + fifty + " as 1", 5 + 99 + 4),
                 Edges.ordersAreGood("clip 1" + "+1".repeat(48) + " as 1"));
-        edges.edge(HERE, "8 brackets of both kinds within one another (FAULT at the 9th) at most.",
-                Edges.earns("[".repeat(8) + "7" + "]".repeat(8), 7), lawFaults("earns " + "[".repeat(9) + "7" + "]".repeat(9), 6 + 8),
-                lawFaults("earns " + "[".repeat(9), 6 + 8), lawFaults("earns " + "[".repeat(8), 6 + 8), lawFaults("earns " + "[".repeat(8) + "7", 6 + 9),
-                Edges.isSo("(".repeat(7) + "1=1" + ")".repeat(7)), Edges.lawIsGood("bars if " + "(".repeat(8) + "1=1" + ")".repeat(8)),
+        edges.edge(HERE + ", promises 11, 12, 13", "8 brackets of both kinds within one another (FAULT at the 9th) at most.",
+                Edges.earns("[".repeat(8) + "7" + "]".repeat(8), 7),
+                lawFaults("earns " + "[".repeat(9) + "7" + "]".repeat(9), 6 + 8),
+                lawFaults("earns " + "[".repeat(9), 6 + 8), lawFaults("earns " + "[".repeat(8), 6 + 8),
+                lawFaults("earns " + "[".repeat(8) + "7", 6 + 9),
+                Edges.isSo("(".repeat(7) + "1=1" + ")".repeat(7)),
+                Edges.lawIsGood("bars if " + "(".repeat(8) + "1=1" + ")".repeat(8)),
                 lawFaults("bars if " + "(".repeat(9) + "1=1" + ")".repeat(9), 8 + 8),
                 Edges.lawIsGood("bars if " + "(".repeat(7) + "[1]=1" + ")".repeat(7)),
                 Edges.lawIsGood("bars if " + "(".repeat(1) + "[".repeat(7) + "1" + "]".repeat(7) + "=1)"),
@@ -175,19 +196,24 @@ final class EdgesOfTermsII {
     }
 
     private static void faults(Edges edges) {
-        edges.edge(HERE, "FAULT: the first TOKEN that can't go on there (the end's: the TEXT's length).",
-                lawFaults("", 0), lawFaults(" ", 1), lawFaults("what what", 0), lawFaults("  what", 2), lawFaults("bars what what", 5),
-                lawFaults("bars if", 7), lawFaults("bars if   ", 10), lawFaults("earns", 5), lawFaults("earns  ", 7), lawFaults("bars;", 5),
-                lawFaults("bars; ", 6), lawFaults("bars  ;  ;", 9), lawFaults("bars   if   )", 12), lawFaults("1", 0), lawFaults("if 1=1", 0),
+        edges.edge(HERE + ", promise 13", "FAULT: the first TOKEN that can't go on there (the end's: the TEXT's length).",
+                lawFaults("", 0), lawFaults(" ", 1), lawFaults("what what", 0), lawFaults("  what", 2),
+                lawFaults("bars what what", 5),
+                lawFaults("bars if", 7), lawFaults("bars if   ", 10), lawFaults("earns", 5), lawFaults("earns  ", 7),
+                lawFaults("bars;", 5),
+                lawFaults("bars; ", 6), lawFaults("bars  ;  ;", 9), lawFaults("bars   if   )", 12), lawFaults("1", 0),
+                lawFaults("if 1=1", 0),
                 lawFaults("bars 1", 5), lawFaults("earns 1 earns 2", 8), lawFaults("pass", 0), lawFaults("bars times 2", 5),
-                ordersFault("", 0), ordersFault("   ", 3), ordersFault("bars", 0), ordersFault("earns 1", 0), ordersFault("pass pass", 5),
-                ordersFault("sign", 4), ordersFault("sign 0", 6), ordersFault("sign 0 ", 7), ordersFault("sign 0 on", 9), ordersFault("die 0 as", 8),
+                ordersFault("", 0), ordersFault("   ", 3), ordersFault("bars", 0), ordersFault("earns 1", 0),
+                ordersFault("pass pass", 5),
+                ordersFault("sign", 4), ordersFault("sign 0", 6), ordersFault("sign 0 ", 7), ordersFault("sign 0 on", 9),
+                ordersFault("die 0 as", 8),
                 "law 'bars' = 0\n fault() = -1", "orders 'pass' = 1\n fault() = -1");
     }
 
     private static void broken(Edges edges) {
         String most = "1000*1000*1000";
-        edges.edge(HERE, """
+        edges.edge(HERE + ", promises 11, 12", """
                 Beyond 1,000,000,000 either way, or divided by 0 (/ cut towards 0, % what is left then), a SUM, a TEST is BROKEN
                 """,
                 Edges.earns(most + "/1000/1000/20", 50), Edges.isBroken(most + "+1"), Edges.isBroken("[" + most + "+1]/1000/1000"),
@@ -197,20 +223,24 @@ final class EdgesOfTermsII {
                 Edges.isBroken(most + "*2"), Edges.isBroken(most + "*[0-2]"), Edges.isBroken(most + "*2/1000/1000/100"),
                 Edges.isBroken("[0-" + most + "]*1000*1000*1000*1000"), Edges.isBroken(most + "*" + most + "*" + most),
                 Edges.isBroken("1000" + "*1000".repeat(49)), Edges.earns(most + "*1/1000/1000/20", 50),
-                Edges.isBroken("7/0"), Edges.isBroken("7%0"), Edges.isBroken("0/0"), Edges.isBroken("0%0"), Edges.isBroken("7/[life-5]"),
+                Edges.isBroken("7/0"), Edges.isBroken("7%0"), Edges.isBroken("0/0"), Edges.isBroken("0%0"),
+                Edges.isBroken("7/[life-5]"),
                 Edges.isBroken("0*[7/0]"), Edges.isBroken("7+1/0*0"), Edges.earns("0/7", 0), Edges.earns("0%7", 0),
-                Edges.earns("50+7/2", 53), Edges.earns("50+[0-7]/2", 47), Edges.earns("50+7/[0-2]", 47), Edges.earns("50+[0-7]/[0-2]", 53),
-                Edges.earns("50+7%4", 53), Edges.earns("50+[0-7]%4", 47), Edges.earns("50+7%[0-4]", 53), Edges.earns("50+[0-7]%[0-4]", 47),
+                Edges.earns("50+7/2", 53), Edges.earns("50+[0-7]/2", 47), Edges.earns("50+7/[0-2]", 47),
+                Edges.earns("50+[0-7]/[0-2]", 53),
+                Edges.earns("50+7%4", 53), Edges.earns("50+[0-7]%4", 47), Edges.earns("50+7%[0-4]", 53),
+                Edges.earns("50+[0-7]%[0-4]", 47),
                 Edges.earns("50+1/2", 50), Edges.earns("50+[0-1]/2", 50), Edges.earns("50+[0-8]%4", 50),
                 Edges.isSo(most + "=" + most), Edges.testIsBroken(most + "+1>0"), Edges.testIsBroken("0<" + most + "+1"),
-                Edges.testIsBroken("1/0=1"), Edges.testIsBroken("1=1%0"), Edges.testIsBroken("not 1/0=1"), Edges.testIsBroken("(1/0=1)"));
+                Edges.testIsBroken("1/0=1"), Edges.testIsBroken("1=1%0"), Edges.testIsBroken("not 1/0=1"),
+                Edges.testIsBroken("(1/0=1)"));
     }
 
     private static void askedOnlyIfItMatters(Edges edges) {
         String yes = "1=1";
         String no = "1=2";
         String bad = "1/0=1";
-        edges.edge(HERE, """
+        edges.edge(HERE + ", promises 11, 12", """
                 ("or", "and" ask what stands behind only if it can still matter; a part that was asked and is BROKEN makes all of it BROKEN).
                 """,
                 Edges.isSo(yes + " or " + bad), Edges.testIsBroken(no + " or " + bad), Edges.testIsBroken(bad + " or " + yes),
@@ -222,7 +252,8 @@ final class EdgesOfTermsII {
                 Edges.isSo(yes + " or " + bad + " and " + bad), Edges.isSo(yes + " and " + yes + " or " + bad),
                 Edges.testIsBroken(yes + " and " + no + " or " + bad), Edges.testIsBroken(no + " or " + yes + " and " + bad),
                 Edges.isNotSo("(" + no + " and " + bad + ") and " + bad), Edges.isSo("not (" + no + " and " + bad + ")"),
-                Edges.testIsBroken("not (" + no + " or " + bad + ") or " + yes), Edges.testIsBroken("(" + bad + " or " + yes + ") or " + yes),
+                Edges.testIsBroken("not (" + no + " or " + bad + ") or " + yes),
+                Edges.testIsBroken("(" + bad + " or " + yes + ") or " + yes),
                 Edges.isSo("(" + yes + " or " + bad + ") and " + yes));
     }
 }

@@ -10,7 +10,7 @@ final class EdgesOfTermsIV {
     }
 
     private static void draws(Edges edges) {
-        edges.edge(HERE, """
+        edges.edge(HERE + ", promise 35", """
                 IV. YEARS with a SEED, n 1 .. 60, on paper: s is the SEED (0 .. 1,000,000); a DRAW of m: s becomes (s times 1103 and 12345) modulo
                 1,000,003, it is s modulo m.
                 """, """
@@ -37,7 +37,7 @@ final class EdgesOfTermsIV {
     }
 
     private static void years(Edges edges) {
-        edges.edge(HERE, """
+        edges.edge(HERE + ", promises 35, 36", """
                 Each time, as long as YEAR is below 999, CAT by CAT that is not GONE a DRAW of 10: below what it DARES it DIES (the lowest LIFE next);
                 then the YEAR passes.
                 """,
@@ -55,7 +55,8 @@ final class EdgesOfTermsIV {
                 """,
                 // from 3 on the draws are 4, 6, 2: the first is the first cat's, then the second's; one that is gone has none
                 Edges.under("dares 6") + "cat(3) = 0; cat(4) = 1; years(3, 1) = 1; drawn(0, 0) = 0; drawn(1, 0) = 4",
-                Edges.under("dares 6") + "row 5 0 9 3 8 9 4 8 9 = 3; die(0, 9) = 0; years(3, 1) = 1; drawn(1, 0) = 0; drawn(2, 0) = 4",
+                Edges.under("dares 6") + "row 5 0 9 3 8 9 4 8 9 = 3; die(0, 9) = 0; years(3, 1) = 1; drawn(1, 0) = 0; "
+                        + "drawn(2, 0) = 4",
                 Edges.under("dares 10;dares 6 if cat = 1") + """
                 row 3 0 9 4 8 9 = 2
                 years(3, 1) = 1; drawn(0, 0) = -1; drawn(1, 0) = 4
@@ -70,13 +71,16 @@ final class EdgesOfTermsIV {
                 years(7, 60) = 9; drawn(0, 2) = 36
                 """,
                 // the year, the gold, the ship on paper are those of then
-                Edges.under("dares 0;dares 10 if year = 2;earns year") + "cat(3) = 0; years(0, 2) = 0; drawn(0, 2) = 1; years(0, 3) = 1; drawn(0, 2) = 3; years(0, 4) = 1",
-                Edges.under("dares 0;earns gold + 1") + "cat(3) = 0; years(0, 6) = 0; drawn(0, 2) = 63; years(0, 7) = 0; drawn(0, 2) = 127; years(0, 8) = 0; drawn(0, 2) = 226",
-                Edges.under("dares 0;earns 99") + "cat(3) = 0; 50 x pass() = 50; years(0, 50) = 0; drawn(0, 2) = 9900; years(0, 51) = 0; drawn(0, 2) = 9999; years(0, 60) = 0; drawn(0, 2) = 9999");
+                Edges.under("dares 0;dares 10 if year = 2;earns year") + "cat(3) = 0; years(0, 2) = 0; drawn(0, 2) = 1; "
+                        + "years(0, 3) = 1; drawn(0, 2) = 3; years(0, 4) = 1",
+                Edges.under("dares 0;earns gold + 1") + "cat(3) = 0; years(0, 6) = 0; drawn(0, 2) = 63; years(0, 7) = 0; "
+                        + "drawn(0, 2) = 127; years(0, 8) = 0; drawn(0, 2) = 226",
+                Edges.under("dares 0;earns 99") + "cat(3) = 0; 50 x pass() = 50; years(0, 50) = 0; drawn(0, 2) = 9900; "
+                        + "years(0, 51) = 0; drawn(0, 2) = 9999; years(0, 60) = 0; drawn(0, 2) = 9999");
     }
 
     private static void rows(Edges edges) {
-        edges.edge(HERE, """
+        edges.edge(HERE + ", promise 9", """
                 A ROW: the TAPE's bytes by threes: a LIFE it is AT, how many others it has YET (the lowest ones, 0 .. 8), an EAR: a CAT;
                 """, """
                 row 0 0 0 8 8 9 4 1 5 0 1 5 4 5 5 8 7 1 = 6
@@ -89,7 +93,7 @@ final class EdgesOfTermsIV {
                 of(5, 1) = 127
                 of(5, 3) = 0; of(5, 4) = -1
                 """);
-        edges.edge(HERE, "one that can't be, one within which the TAPE ends, one for which there is no room is a MOUSE: nobody.", """
+        edges.edge(HERE + ", promises 9, 10", "one that can't be, one within which the TAPE ends, one for which there is no room is a MOUSE: nobody.", """
                 row 9 0 0 = 0; mice() = 1
                 row 0 9 0 = 0; mice() = 1
                 row 0 0 10 = 0; mice() = 1
@@ -139,18 +143,28 @@ final class EdgesOfTermsIV {
                 forget() = 1; seen(1) = 1; seen(2) = 2
                 terms(0, 99) = 2; terms(1, 0) = 4; terms(2, 0) = 6
                 """;
-        edges.edge(HERE, """
+        edges.edge(HERE + ", promises 37, 38", """
                 IMAGES 0, 1 keep all but the TAPE, FAULT, MICE, where ORDERS stopped, what can be undone (nothing, behind back()), the latest YEARS;
                 """, kept + changed + "back(0) = 0\n" + asItWas + "count(5) = 0; undo() refused -3\n",
                 kept + "count(5) = 2; undo() = 3; undo() = 0; undo() refused -3; back(0) = 0\n" + asItWas,
                 // what they don't keep goes on
-                "cat(2) = 0; image(0) = 0; row 3; law 'bars bars'; orders 'pass;pass;clip 0 as 9'; years(0, 1); law 'bars bars'; tape 'pass times 3'\n"
+                "cat(2) = 0; image(0) = 0; row 3; law 'bars bars'; orders 'pass;pass;clip 0 as 9'; years(0, 1); law 'bars bars'; "
+                        + "tape 'pass times 3'\n"
                         + "back(0) = 0; count(6) = 12; fault() = 5; mice() = 1; stopped() = 2; drawn(0, 2) = 3; orders() = 3",
-                "cat(2) = 0; pass() = 1; image(0) = 0; count(5) = 1; undo() = 3; image(1) = 0; back(0) = 0; count(5) = 0; undo() refused -3; back(1) = 0; count(13) = 0");
-        edges.edge(HERE, "BACK to one all that it keeps is as it was then (IMAGES stay).",
+                "cat(2) = 0; pass() = 1; image(0) = 0; count(5) = 1; undo() = 3; image(1) = 0; back(0) = 0; count(5) = 0; "
+                        + "undo() refused -3; back(1) = 0; count(13) = 0");
+        edges.edge(HERE + ", promise 38", "BACK to one all that it keeps is as it was then (IMAGES stay).",
                 kept + changed + "image(1) = 0; back(0) = 0\n" + asItWas + changed + "back(0) = 0\n" + asItWas,
-                kept + changed + "image(1) = 0; back(0) = 0; back(1) = 0; of(0, 0) = 3; count(4) = 3; count(12) = 0; count(13) = 99; of(2, 4) = 1; count(3) = 2; rich(2) = 60",
+                kept + changed + "image(1) = 0; back(0) = 0; back(1) = 0; of(0, 0) = 3; count(4) = 3; count(12) = 0; "
+                        + "count(13) = 99; of(2, 4) = 1; count(3) = 2; rich(2) = 60",
                 "image(0) = 0; cat(2) = 0; ship(3) = 0; back(0) = 0; count(0) = 0; count(2) = 0; of(0, 0) none; at(0, 0) none",
-                "cat(1) = 0; image(0) = 0; cat(2) = 1; image(0) = 0; cat(3) = 2; back(0) = 0; count(0) = 2; image(1) = 0; back(1) = 0; count(0) = 2");
+                // what stands under the same number since does not come between
+                "image(0) = 0; ship(5) = 0; cat(2) = 0; law 'earns 7' = 0; seen(3) = 1; image(1) = 0; back(0) = 0\n"
+                        + "ship(6) = 0; cat(8) = 0; law 'earns 9' = 0; seen(4) = 1; clip(0, 1) = 9; pass() = 1; die(0, 0) = 7; "
+                                + "sign(0, 0) = 1; back(1) = 0\n"
+                        + "at(0, 0) = 5; of(0, 0) = 2; of(0, 1) = 507; of(0, 2) = 9; of(0, 3) = 0; of(0, 4) = -1; rich(0) = 7; "
+                                + "canBe(0) = 8; count(13) = 0",
+                "cat(1) = 0; image(0) = 0; cat(2) = 1; image(0) = 0; cat(3) = 2; back(0) = 0; count(0) = 2; image(1) = 0; "
+                        + "back(1) = 0; count(0) = 2");
     }
 }

@@ -107,7 +107,7 @@ public final class RoomTest {
         long before = made();
         NineLives x = new NineLives();
         x.image(0);
-        for (int calls = 2; calls < 512; calls += LONG_LAW.length() / 20 + 4) {
+        for (int calls = 2; calls < 496; calls += LONG_LAW.length() / 20 + 5) {
             Due.law(x, LONG_LAW);
             DUE.due("fault", x.fault(), -1);
             x.back(0);

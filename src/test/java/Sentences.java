@@ -44,8 +44,9 @@ final class Sentences {
         named.put(place, new boolean[text.length()]);
     }
 
-    /** Notes that there is a test of these words; false, if they don't stand there. */
-    boolean note(String place, String words) {
+    /** Notes that there is a test of these words; false, if they don't stand there. A place may go on with promises that lean on it. */
+    boolean note(String placeAndPromises, String words) {
+        String place = placeAndPromises.replaceAll(", promises? .*", "");
         String text = places.getOrDefault(place, "");
         String plain = words.replaceAll("\\s+", " ").strip();
         int from = plain.isEmpty() ? -1 : text.indexOf(plain);
