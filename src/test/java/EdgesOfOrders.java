@@ -190,7 +190,7 @@ final class EdgesOfOrders {
             "sign 1 on 0", "sign 2 on 0", "die 3 as 1", "die 0 as 10", "die 0 as 9", "die 0 as 7 times 2", "die 2 as 9",
             "die 1 as 1",
             "clip 0 as 3 times 2", "clip 0 as 9", "clip 3 as 1", "pass times 20;pass times 20;pass times 20;clip 9 as 9"};
-        String[] runs = new String[wrong.length + 5];
+        String[] runs = new String[wrong.length + 6];
         for (int i = 0; i < wrong.length; i++) {
             runs[i] = port + "orders 'pass;die 0 as 8;sign 0 on 0;clip 1 as 1;" + wrong[i]
                     + ";pass' refused -3\n fault() = -1\n count(13) = 0\n"
@@ -208,6 +208,9 @@ final class EdgesOfOrders {
         runs[wrong.length + 4] = "cat(3) = 0; clip(0, 8) = 9; 7 x pass() = 7; clip(0, 1) = 8; 9 x pass() = 16; "
                 + "orders 'pass times 20;clip 0 as 9' refused -3; count(5) = 16; "
                 + "9 x undo() = 3; undo() = 2; of(0, 2) = 8; 6 x undo() = 3; count(13) = 1; undo() refused -3";
+        runs[wrong.length + 5] = "cat(3) = 0; 16 x pass() = 16; orders 'clip 0 as done % 8 times 20;clip 0 as 9' refused -3; "
+                + "count(5) = 16; "
+                + "15 x undo() = 3; undo() = 3; count(13) = 0; undo() refused -3";
         edges.edge(HERE + ", promises 12, 14, 20", """
                 One that can't be (a BROKEN SUM, as sign(), die(), clip(), pass() are REFUSED) ends it: all is as it was ahead of it.
                 """, runs);

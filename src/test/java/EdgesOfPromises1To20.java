@@ -412,6 +412,18 @@ final class EdgesOfPromises1To20 {
                 undo() = 0; of(0, 4) = 1
                 undo() = 0; of(0, 4) = -1
                 """, """
+                6 x cat(3) = 5; ship(0) = 0; ship(0) = 1; ship(0) = 2
+                sign(5, 2) = 1; clip(5, 8) = 9; pass() = 1; die(5, 8) = 7; sign(5, 0) = 1; clip(5, 0) = 8; pass() = 2; die(5, 0) = 6
+                of(5, 0) = 0; of(5, 1) = 246; of(5, 2) = 0; of(5, 3) = 13; of(5, 4) = 0
+                undo() = 1; of(5, 0) = 8; of(5, 1) = 247
+                undo() = 3; of(5, 3) = 4
+                undo() = 2; of(5, 2) = 8
+                undo() = 0; of(5, 4) = 2
+                undo() = 1; of(5, 0) = 3; of(5, 1) = 503
+                undo() = 3; of(5, 3) = 0
+                undo() = 2; of(5, 2) = 9
+                undo() = 0; of(5, 4) = -1
+                """, """
                 15 x pass() = 15; count(5) = 15
                 pass() = 16; count(5) = 16
                 pass() = 17; count(5) = 16

@@ -4,6 +4,8 @@ import java.util.List;
 /** Texts of both languages: the tape, tokens, grammar, limits, faults, what is broken. */
 final class EdgesOfTermsII {
     private static final String HERE = "Terms II";
+    private static final String EVERY_WORD = "or and not if times on as earns dares shows bars sign die clip pass cat life spent ear gold "
+            + "ship year mood done latest alive crew";
 
     static void tell(Edges edges) {
         tape(edges);
@@ -15,6 +17,7 @@ final class EdgesOfTermsII {
         parts(edges);
         limits(edges);
         faults(edges);
+        wordsAtWrongPlaces(edges);
         broken(edges);
         askedOnlyIfItMatters(edges);
     }
@@ -209,6 +212,40 @@ final class EdgesOfTermsII {
                 ordersFault("sign", 4), ordersFault("sign 0", 6), ordersFault("sign 0 ", 7), ordersFault("sign 0 on", 9),
                 ordersFault("die 0 as", 8),
                 "law 'bars' = 0\n fault() = -1", "orders 'pass' = 1\n fault() = -1");
+    }
+
+    /** Each word of both languages at each kind of place: where it can't go on, the FAULT is at it. */
+    private static void wordsAtWrongPlaces(Edges edges) {
+        List<String> runs = new ArrayList<>();
+        for (String word : EVERY_WORD.split(" ")) {
+            addFault(runs, true, "", word, "earns dares shows bars");
+            addFault(runs, true, "earns ", word, "cat life spent ear gold ship year mood");
+            addFault(runs, true, "earns 1+", word, "cat life spent ear gold ship year mood");
+            addFault(runs, true, "earns 1 ", word, "if");
+            addFault(runs, true, "bars ", word, "if");
+            addFault(runs, true, "bars if ", word, "not cat life spent ear gold ship year mood");
+            addFault(runs, true, "bars if 1=1 ", word, "or and");
+            addFault(runs, true, "bars if 1 ", word, "");
+            addFault(runs, true, "bars;", word, "earns dares shows bars");
+            addFault(runs, false, "", word, "sign die clip pass");
+            addFault(runs, false, "clip ", word, "year done latest alive life gold crew");
+            addFault(runs, false, "pass ", word, "times if");
+            addFault(runs, false, "pass times ", word, "");
+            addFault(runs, false, "pass times 2 ", word, "if");
+            addFault(runs, false, "sign 0 ", word, "on");
+            addFault(runs, false, "die 0 ", word, "as");
+            addFault(runs, false, "clip 0 ", word, "as");
+            addFault(runs, false, "clip 0 as 1 ", word, "times if");
+            addFault(runs, false, "pass if life ", word, "");
+            addFault(runs, false, "pass;", word, "sign die clip pass");
+        }
+        edges.edge(HERE + ", promises 11, 12, 13", "FAULT: the first TOKEN that can't go on there", all(runs));
+    }
+
+    private static void addFault(List<String> runs, boolean isLaw, String ahead, String word, String allowed) {
+        if (!List.of(allowed.split(" ")).contains(word)) {
+            runs.add(isLaw ? lawFaults(ahead + word, ahead.length()) : ordersFault(ahead + word, ahead.length()));
+        }
     }
 
     private static void broken(Edges edges) {

@@ -302,6 +302,9 @@ final class EdgesOfTermsIII {
                 Edges.under("shows life / 3") + "cat(0) = 0\n" + sees(0, 1, 0, 1, 0, 1) + "explained(0) = 6\n" + sees(0, 1, 0, 1, 0,
                 1, 0) + "explained(0) = -1\n"
                         + sees(0, 0, 1, 1, 0, 0) + "explained(0) = 3\n",
+                // life 3 alone does what 1 and 2 could do together
+                Edges.under("shows 0;shows 1 if year = 1 and (life = 1 or life = 3);shows 2 if year = 2 and (life = 2 or life = 3)")
+                        + "cat(0) = 0\n" + sees(0, 1, 2) + "explained(0) = 2\n",
                 // life 2 alone shows 1 now and 2 then: two lives do what three could do as well
                 Edges.under("shows 0;shows 1 if life > 0 and year = 1;shows 2 if life > 1 and year = 2") + "row 0 2 9 = 1\n"
                         + sees(0,

@@ -7,6 +7,7 @@ final class EdgesOfTermsIV {
         years(edges);
         rows(edges);
         images(edges);
+        fullImages(edges);
     }
 
     private static void draws(Edges edges) {
@@ -166,5 +167,44 @@ final class EdgesOfTermsIV {
                                 + "canBe(0) = 8; count(13) = 0",
                 "cat(1) = 0; image(0) = 0; cat(2) = 1; image(0) = 0; cat(3) = 2; back(0) = 0; count(0) = 2; image(1) = 0; "
                         + "back(1) = 0; count(0) = 2");
+    }
+
+    /** Six cats, three ships, eight sights, six laws: the last of each is kept as the first is. */
+    private static void fullImages(Edges edges) {
+        String full = """
+                law "earns 10" = 0; law "earns 11" = 1; law "earns 12" = 2; law "earns 13" = 3; law "earns 14" = 4; law "earns 15" = 5
+                force(5) = -1
+                cat(3) = 0; cat(4) = 1; cat(5) = 2; cat(6) = 3; cat(7) = 4; cat(8) = 5
+                ship(1) = 0; ship(2) = 1; ship(4) = 2
+                7 x seen(8) = 7; seen(7) = 8
+                terms(0, 5) = 0; terms(1, 6) = 1; terms(2, 7) = 0
+                clip(5, 4) = 9; clip(0, 2) = 9; sign(5, 2) = 1; sign(0, 1) = 1; pass() = 6
+                image(0) = 0
+                """;
+        String changed = """
+                die(5, 0) = 7; die(0, 8) = 7; clip(5, 5) = 4; clip(0, 6) = 2; sign(5, 0) = 1; sign(0, 2) = 1; pass() = 7
+                terms(1, 0) = 6; terms(2, 0) = 7; force(0) = 5; forget() = 8; 7 x seen(8) = 7; seen(9) = 8
+                """;
+        String asItWas = """
+                of(5, 0) = 8; of(5, 1) = 255; of(5, 2) = 4; of(5, 3) = 15; of(5, 4) = 2; of(5, 6) = 15
+                of(0, 0) = 3; of(0, 1) = 503; of(0, 2) = 2; of(0, 3) = 15; of(0, 4) = 1
+                at(0, 0) = 1; at(1, 0) = 2; at(2, 0) = 4; at(2, 1) = 32; at(1, 1) = 1
+                count(0) = 6; count(2) = 3; count(3) = 8; count(4) = 6; count(12) = 5; count(13) = 6; count(14) = 6; count(15) = 7
+                rich(0) = 60; rich(5) = 90
+                canBe(0) = 0; explained(5) = 2
+                """;
+        edges.edge(HERE + ", promise 38", "BACK to one all that it keeps is as it was then (IMAGES stay).",
+                full + asItWas + changed + "back(0) = 0\n" + asItWas,
+                // the same numbers by others in between
+                "image(1) = 0\n" + full + "back(1) = 0\n" + """
+                6 x law "bars" = 5
+                6 x cat(0) = 5
+                3 x ship(511) = 2
+                8 x seen(9) = 8
+                clip(5, 8) = 9; sign(4, 2) = 1; die(5, 8) = 7; pass() = 1
+                back(0) = 0
+                """ + asItWas,
+                full + changed + "image(1) = 0; back(0) = 0; back(1) = 0; of(5, 0) = 0; of(5, 2) = 5; of(5, 3) = 30; of(5, 4) = 0; "
+                        + "count(12) = 0; explained(5) = -1");
     }
 }
