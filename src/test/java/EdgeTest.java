@@ -9,6 +9,7 @@ public final class EdgeTest {
         Due due = new Due();
         for (Class<?> type : List.of(NineLives.class, Oracle.class)) {
             Edges edges = new Edges(due, type);
+            EdgesOfWhatItIs.tell(edges);
             EdgesOfTermsI.tell(edges);
             EdgesOfTermsII.tell(edges);
             EdgesOfLaws.tell(edges);

@@ -17,7 +17,8 @@ final class Sentences {
 
     Sentences() throws IOException {
         String document = Files.readString(DOCUMENT).replaceAll("```\\w*", " ").replaceAll("\\s+", " ");
-        add("What it is", between(document, "An object is used", "## The public face"));
+        add("What it is", between(document, "A port whose cats", "## The public face"));
+        add("The public face", between(document, "public final class NineLives", "## Terms"));
         add("Terms I", between(document, "I. LIVES", "II. TEXTS"));
         add("Terms II", between(document, "II. TEXTS", "III. To SIGN"));
         add("Terms III", between(document, "III. To SIGN", "IV. YEARS"));
@@ -28,6 +29,8 @@ final class Sentences {
             Matcher told = Pattern.compile("`[^`]*`: ").matcher(text);
             add("Promise " + promise, told.find() ? text.substring(told.end()) : text);
         }
+        // what is told there to be free can't be tested
+        add("Not promised", document.substring(document.indexOf("Nothing is promised beyond")).strip());
     }
 
     private static String between(String document, String first, String next) {
